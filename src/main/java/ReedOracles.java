@@ -451,6 +451,10 @@ public final class ReedOracles {
         return Math.min(WETS - 1, wet + 3);
     }
 
+    private static boolean areOpposed(int one, int other) {
+        return one == YES && other == NO || one == NO && other == YES;
+    }
+
     private static long power(long base, int times) {
         long product = 1;
         for (int i = 0; i < times; i++) {
@@ -1167,7 +1171,7 @@ public final class ReedOracles {
             }
             int answer = home.meaning(lastNote);
             if (answer == YES || answer == NO) {
-                if (answered[question] == YES + NO - answer) {
+                if (areOpposed(answer, answered[question])) {
                     crack(reed);
                 }
                 answered[question] = answer;
@@ -1192,7 +1196,7 @@ public final class ReedOracles {
             int other = home.meaning(blow(home, b, q, question));
             if (one != NONE && one == other) {
                 marches++;
-            } else if (one == YES && other == NO || one == NO && other == YES) {
+            } else if (areOpposed(one, other)) {
                 clashes++;
             }
             return true;
@@ -1347,11 +1351,14 @@ public final class ReedOracles {
         }
 
         void seek(Duchy home, int reed, int player, int question, int answer) {
+            length = NONE;
+            if (isBeyond(home, player, question, answer)) {
+                return;
+            }
             Arrays.fill(origin, UNSEEN);
             int start = stateOf(home.wet[reed], home.key[reed], home.cold);
             origin[start] = ORIGIN;
             queue[0] = start;
-            length = NONE;
             int tail = 1;
             for (int head = 0; head < tail && head < STATES; head++) {
                 int state = queue[head];
@@ -1363,6 +1370,15 @@ public final class ReedOracles {
                 }
                 tail = spread(state, tail);
             }
+        }
+
+        /** Wets and cuts lead to every note, unless it coughs at its wettest; so no search is worth while then. */
+        private static boolean isBeyond(Duchy home, int player, int question, int answer) {
+            boolean meant = false;
+            for (int n = 0; n < NOTES; n++) {
+                meant = meant || home.means[n] == answer;
+            }
+            return !meant || home.coughs(WETS - 1, player, question);
         }
 
         private int spread(int state, int from) {
@@ -1880,10 +1896,6 @@ public final class ReedOracles {
                 }
             }
             return foes;
-        }
-
-        private static boolean areOpposed(int one, int other) {
-            return one == YES && other == NO || one == NO && other == YES;
         }
 
         int marches(Duchy home, int question) {
