@@ -84,6 +84,8 @@ public final class FaceTest {
             BENCH.due(one + " has some twenty fields", fields <= 20, true);
             for (Method method : one.getDeclaredMethods()) {
                 BENCH.due(method + " takes at most seven", method.getParameterCount() <= 7, true);
+                boolean hides = Arrays.stream(FACE).anyMatch(line -> line.split(" ")[1].equals(method.getName()));
+                BENCH.due(method + " has a name of the face", hides, false);
             }
         }
     }

@@ -66,6 +66,14 @@ public final class TextsTest {
         BENCH.due("text", x.text(0, NONE), NONE);
         BENCH.due("place of byte 255", x.fault(1), 0);
         BENCH.due("the tape is empty then", x.end(1), NONE);
+        Bench.feed(x, "cold 12;".getBytes(StandardCharsets.ISO_8859_1));
+        BENCH.due("a number cut", x.end(6), 6);
+        BENCH.due("its text", x.text(0, NONE), NONE);
+        BENCH.due("its end", x.fault(1), 6);
+        Bench.feed(x, "cold 1;colder".getBytes(StandardCharsets.ISO_8859_1));
+        BENCH.due("a word cut", x.end(11), 11);
+        BENCH.due("its text", x.text(0, NONE), NONE);
+        BENCH.due("its end", x.fault(1), 11);
         // 'cold' ' 7;' with blanks: the highest byte of each number comes first.
         x.feed(0x636F6C64, 0x20373B20, 0x0A0A2020, 0x20202020, 0x20202020);
         BENCH.due("text of bytes in order", x.text(0, NONE), 0);
@@ -128,6 +136,11 @@ public final class TextsTest {
         ReedOracles later = Bench.duchy("cold 3;means 2 yes;cold 5;means 2 wait;means 3 no;means 5 wait;means 5 yes;");
         BENCH.due("the later cold", later.duchy(0, 3), 5);
         BENCH.row("later meanings", all(later, 60, 68), 0, 1, 2, 0, 0, 1, 0, 1);
+
+        Bench.tell(later, 0, 0, "cold 1;means 0 wait;means 1 no;means 7 no;reed 1 1;player 1;question 1 1;");
+        Bench.tell(later, 0, 0, "");
+        BENCH.row("nothing of the text before", all(later, 0, 4), 0, 0, 0, 0);
+        BENCH.row("nor of its book", all(later, 60, 68), 0, 1, 0, 1, 0, 1, 0, 1);
 
         ReedOracles tight = Bench.duchy("reed 1 2;reed3\n4 ; player09;\n\nquestion 07 1;means 1no;cold00;  ");
         BENCH.row("blanks where they must be alone", all(tight, 0, 4), 2, 1, 1, 0);
@@ -205,6 +218,15 @@ public final class TextsTest {
         fault(0, "reed 123 4;", 1, 5);
         fault(0, "reed 1 2345;", 1, 7);
         fault(0, "reeds 1 2;", 1, 0);
+        fault(0, "reeda 1 2;", 1, 0);
+        fault(0, "reedz 1 2;", 1, 0);
+        fault(0, "weed 1 2;", 1, 0);
+        fault(0, "reef 1 2;", 1, 0);
+        fault(0, "ree 1 2;", 1, 0);
+        fault(0, "reed{1 2;", 1, 4);
+        fault(0, "reed`1 2;", 1, 4);
+        fault(0, "cold 1/;", 1, 6);
+        fault(0, "cold 1:;", 1, 6);
         fault(0, " rEed 1 2;", 1, 1);
         fault(0, ";", 1, 0);
         fault(0, "cold 1;;", 1, 7);
