@@ -77,21 +77,14 @@ public final class ReedOracles {
     }
 
     public int text(int sort, int at) {
-        now.fault = 0;
-        now.place = NONE;
-        if (!isSort(sort)) {
-            return MISSING;
-        }
-        int number = at == NONE ? now.counts[sort] : at;
-        int numbers = at == NONE ? MOST_TEXTS : now.counts[sort];
-        if (number < 0 || number >= numbers) {
+        int number = numberFor(sort, at);
+        if (number == MISSING) {
+            now.endTape(0, NONE);
             return MISSING;
         }
         reader.read(sort);
-        now.tape.size = 0;
-        now.fault = reader.fault;
-        now.place = reader.place;
-        if (now.fault != 0) {
+        now.endTape(reader.fault, reader.place);
+        if (reader.fault != 0) {
             return NONE;
         }
         now.put(sort, number, reader);
@@ -429,6 +422,15 @@ public final class ReedOracles {
         }
         now.copy(images[k]);
         return true;
+    }
+
+    private int numberFor(int sort, int at) {
+        if (!isSort(sort)) {
+            return MISSING;
+        }
+        int number = at == NONE ? now.counts[sort] : at;
+        int numbers = at == NONE ? MOST_TEXTS : now.counts[sort];
+        return number >= 0 && number < numbers ? number : MISSING;
     }
 
     private static boolean isSort(int sort) {
@@ -778,6 +780,13 @@ public final class ReedOracles {
             System.arraycopy(other.counts, 0, counts, 0, SORTS);
             fault = other.fault;
             place = other.place;
+        }
+
+        /** Every text() takes the tape, also one that reads nothing of it. */
+        void endTape(int fault, int place) {
+            tape.size = 0;
+            this.fault = fault;
+            this.place = place;
         }
 
         void put(int sort, int number, Reader reader) {

@@ -14,6 +14,7 @@ public final class TextsTest {
         newObject();
         tape();
         places();
+        takenUnread();
         duchies();
         deeds();
         facts();
@@ -109,13 +110,45 @@ public final class TextsTest {
         BENCH.due("none such", y.text(0, 1), -2);
         BENCH.due("fault of none read", y.fault(0), 0);
         BENCH.due("place of none read", y.fault(1), NONE);
-        BENCH.due("no text was read: the tape stays", y.text(0, NONE), 1);
+        BENCH.due("the tape is empty all the same", y.end(1), NONE);
+        BENCH.due("a further one", Bench.tell(y, 0, NONE, "cold 4;"), 1);
         BENCH.due("told of it", y.duchy(1, 3), 4);
         BENCH.due("the first stays", y.duchy(0, 3), 0);
         BENCH.due("in place of the first", Bench.tell(y, 0, 0, "player 9;"), 0);
         BENCH.due("reeds of it", y.duchy(0, 0), 0);
         BENCH.due("breath of it", y.duchy(0, 30), 9);
         BENCH.due("the second stays", y.duchy(1, 3), 4);
+    }
+
+    /** A text() that answers -2 empties the tape too, whatever is on it, and tells nothing. */
+    private static void takenUnread() {
+        for (String text : new String[] {"cold 3;", "night;", "cough 0 0;", "x", ""}) {
+            for (int sort = 0; sort < 3; sort++) {
+                ReedOracles x = new ReedOracles();
+                unread(x, sort, 0, text);
+                unread(x, sort, -2, text);
+                unread(x, -1, NONE, text);
+                unread(x, 3, 0, text);
+                BENCH.due("a first one", Bench.tell(x, sort, NONE, ""), 0);
+                unread(x, sort, 1, text);
+                BENCH.due("a second one", Bench.tell(x, sort, NONE, ""), 1);
+                unread(x, sort, NONE, text);
+                unread(x, sort, 2, text);
+                unread(x, Integer.MAX_VALUE, Integer.MIN_VALUE, text);
+            }
+        }
+    }
+
+    private static void unread(ReedOracles x, int sort, int at, String text) {
+        int before = x.count(sort);
+        x.end(0);
+        Bench.feed(x, text.getBytes(StandardCharsets.ISO_8859_1));
+        BENCH.due("unread", x.text(sort, at), -2);
+        BENCH.due("no fault", x.fault(0), 0);
+        BENCH.due("no place", x.fault(1), NONE);
+        BENCH.due("an empty tape", x.end(1), NONE);
+        BENCH.due("feed of an empty tape", x.feed(0, 0, 0, 0, 0), 20);
+        BENCH.due("the same count", x.count(sort), before);
     }
 
     private static void duchies() {
