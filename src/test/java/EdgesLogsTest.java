@@ -78,6 +78,10 @@ public final class EdgesLogsTest {
         fits(PLAIN, "", 2, NONE);
         fits(PLAIN, "cough 0 0;", 1, NONE);
         fits(PLAIN, "cough 0 0;", 2, NONE);
+        // Wets 8 and 9, keys 4 and 1: 24, 6, 14 and 4; 27, 6, 14 and 1.
+        fits("player 6;question 14 0;", "heard 0 0 0;", 0, 2);
+        fits("player 6;question 14 0;", "heard 0 0 0;", 1, NONE);
+        fits("player 6;question 14 0;", "heard 0 0 0;", 2, NONE);
         // The dry one: one wet and one key.
         fits(PLAIN, "heard 0 0 7;heard 0 0 7;", 1, 0);
         fits(PLAIN, "heard 0 0 7;heard 0 0 7;", 2, 7);

@@ -24,6 +24,7 @@ public final class EdgesNotesTest {
         edit();
         marched();
         chords();
+        asTold();
         twins();
         tune();
         fairest();
@@ -344,7 +345,35 @@ public final class EdgesNotesTest {
         EDGES.of(30, "CHORDS. NONE: there is none such (of any).");
         ReedOracles x = Bench.duchy("reed 0 0;reed 0 2;reed 0 4;player 7;player 7;question 1 0;");
         EDGES.due("there", x.chords(0, 1, 0), 1);
+        EDGES.due("there, once more", x.chords(0, 1, 0), 1);
         EDGES.missing("chords", NONE, n -> x.chords(n[0], n[1], n[2]), 1, 2, 1);
+    }
+
+    /** A duchy told anew, smaller, and asked of by turns with another one: nothing of the one is left for the other. */
+    private static void asTold() {
+        EDGES.of(31, "(Of a DUCHY as told.)");
+        ReedOracles x = Bench.duchy("reed 0 0;".repeat(6) + "player 7;".repeat(4) + "question 1 0;".repeat(8) + "means 0 wait;");
+        Bench.tell(x, 0, NONE, "reed 0 1;reed 0 3;reed 0 5;player 7;question 1 0;");
+        for (int i = 0; i < 2; i++) {
+            EDGES.due("lows of the great one", x.lows(0), 192);
+            EDGES.due("lows of the small one", x.lows(1), 0);
+            EDGES.due("chords of the great one", x.chords(0, 3, 7), 0);
+            EDGES.due("chords of the small one", x.chords(1, 0, 0), 1);
+            EDGES.due("fairest of the great one", x.fairest(0, 2, true), 192);
+            EDGES.due("fairest of the small one", x.fairest(1, 0, true), 3);
+            EDGES.due("twins of the great one", x.twins(0, 0), 15);
+            EDGES.due("twins of the small one", x.twins(1, 0), 0);
+            EDGES.due("told of the great one", x.told(0, 7, 2), 24);
+            EDGES.due("told of the small one", x.told(1, 0, 1), 3);
+            EDGES.due("clearest of the great one", x.clearest(0, 7, true), 4);
+            EDGES.due("clearest of the small one", x.clearest(1, 0, true), 1);
+        }
+        Bench.tell(x, 0, 0, "reed 0 0;player 7;question 1 0;");
+        EDGES.due("lows of what is told anew", x.lows(0), 1);
+        EDGES.due("its answer, by the book at first", x.note(0, 0, 0, 0, true), 0);
+        EDGES.due("its twins", x.twins(0, 0), 0);
+        EDGES.due("its told", x.told(0, 0, 0), 1);
+        EDGES.due("its fairest", x.fairest(0, 2, true), 0);
     }
 
     private static int twins(String duchy, int what) {
@@ -445,10 +474,16 @@ public final class EdgesNotesTest {
         EDGES.due("wet 8 becomes 9", wets("reed 8 0;player 6;question 15 0;"), 1);
         EDGES.due("the weakest player counts", wets("reed 0 0;player 9;player 1;player 9;question 5 0;"), 2);
         EDGES.due("the deepest question counts", wets("reed 0 0;player 1;question 1 0;question 5 0;question 1 0;"), 2);
+        EDGES.due("all there may be", wets("reed 0 0;player 9;player 9;player 9;player 8;" + "question 8 0;".repeat(7) + "question 9 0;"), 1);
+        EDGES.due("all there may be, heard", wets("reed 0 0;" + "player 9;".repeat(4) + "question 9 0;".repeat(8)), 0);
         EDGES.due("no players", wets("reed 0 0;question 15 0;"), 0);
         EDGES.due("no questions", wets("reed 0 0;player 1;"), 0);
         EDGES.of(36, "WETS. NONE: never, or there is none such (of either).");
         EDGES.due("never", wets("reed 0 0;player 1;question 15 0;"), NONE);
+        ReedOracles anew = Bench.duchy("reed 0 0;player 7;player 1;question 1 0;question 15 0;");
+        EDGES.due("never", anew.wets(0, 0), NONE);
+        Bench.tell(anew, 0, 0, "reed 0 0;player 7;question 1 0;");
+        EDGES.due("told anew, without the deep one and the weak one", anew.wets(0, 0), 0);
         EDGES.due("no reeds", wets(PLAIN), NONE);
         ReedOracles x = Bench.duchy("reed 0 0;reed 0 0;" + PLAIN);
         EDGES.missing("wets", NONE, n -> x.wets(n[0], n[1]), 1, 2);
@@ -472,6 +507,8 @@ public final class EdgesNotesTest {
         clearest("reed 0 0;reed 1 0;player 1;player 1;player 2;question 2 0;", 1, 2);
         clearest("reed 0 0;reed 0 0;player 1;player 1;question 2 0;", 0, 0);
         clearest("reed 0 0;reed 0 0;question 1 0;", 0, 0);
+        clearest("reed 0 0;".repeat(6) + "player 7;".repeat(4) + "question 1 0;".repeat(8), 0, 4);
+        clearest("reed 0 0;reed 0 1;player 7;player 7;player 8;player 7;question 1 0;", 0, 3);
         clearest("reed 0 0;".repeat(5) + "reed 0 1;means 1 wait;means 2 wait;means 3 wait;" + three, 5, 3);
         EDGES.of(37, "CLEAREST: the REED (NONE: no REEDS), or (many) how many.");
         clearest(PLAIN, NONE, 0);

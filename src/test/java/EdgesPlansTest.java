@@ -12,6 +12,7 @@ public final class EdgesPlansTest {
     public static void main(String[] args) {
         readyRows();
         asTold();
+        twoDuchies();
         readyEdges();
         readyNever();
         favourRows();
@@ -74,6 +75,34 @@ public final class EdgesPlansTest {
         }
     }
 
+    /** A great duchy and a small one in one object, asked of by turns: no answer of the one is left for the other. */
+    private static void twoDuchies() {
+        EDGES.of(12, "(Of a DUCHY as told.)");
+        ReedOracles x = Bench.duchy("reed 0 1;".repeat(5) + "reed 9 2;player 7;player 8;" + "question 1 0;".repeat(8));
+        Bench.tell(x, 0, NONE, "reed 0 2;reed 0 1;player 7;question 1 0;question 1 0;");
+        for (int i = 0; i < 2; i++) {
+            EDGES.due("favour of the great one", x.favour(0, 0, 1, NONE), 6);
+            EDGES.due("favour of the small one", x.favour(1, 0, 1, NONE), 1);
+            EDGES.due("its first reed", x.favour(1, 0, 1, 0), 0);
+            EDGES.due("its second reed", x.favour(1, 0, 1, 1), 1);
+            EDGES.due("program of the great one", x.program(0, 0, 0, NONE), 8);
+            EDGES.due("dare of the small one", x.dare(1, 0, 0, false), 2);
+            EDGES.due("program of the great one", x.program(0, 0, 0, 7), 7);
+            EDGES.due("program of the small one", x.program(1, 0, 0, NONE), 2);
+            EDGES.due("dare of the great one", x.dare(0, 0, 0, false), 2);
+            EDGES.due("program of the small one", x.program(1, 1, 0, 1), 1);
+            EDGES.due("dare of the small one", x.dare(1, 0, 0, false), 2);
+            EDGES.due("choir of the great one", x.choir(0, 0, true), 1);
+            EDGES.due("peace of the great one", x.peace(0, 0, true), 63);
+            EDGES.due("choir of the small one", x.choir(1, 0, true), 1);
+            EDGES.due("peace of the small one", x.peace(1, 0, true), 1);
+            EDGES.due("choir of the great one by another", x.choir(0, 1, true), 1);
+            EDGES.due("peace of the great one by another", x.peace(0, 1, true), 63);
+            EDGES.due("who has what in the great one", x.owns(0, 0, false), 1);
+            EDGES.due("who has what in the small one", x.owns(1, 0, false), 0);
+        }
+    }
+
     private static void readyEdges() {
         EDGES.of(11, "wet, cut (as DEEDS), dry (WET 1 less, 0 at least), warm (COLD 1 less, 0 at least), cool (COLD 1 more, 9 at most)");
         // Wet 7 becomes 9, not 10: 27 makes note 3, 30 would make 6.
@@ -87,6 +116,11 @@ public final class EdgesPlansTest {
         // Cold 9 gets no colder: 1 - 9 is note 0; two wets and a dry, 16 - 9, come before wet, dry, cut.
         readyFor("reed 0 1;cold 9;", 7, 0, 0, 2);
         readyFor("reed 0 1;cold 8;", 0, 4);
+        readyFor("reed 9 0;cold 9;", 1, 1, 1, 2);
+        readyFor("reed 9 0;cold 9;", 4, 1, 1);
+        readyFor("reed 9 0;cold 3;", 7, 4);
+        // Warm is 1 less cold, not 2: two cuts come before two of it.
+        readyFor("reed 9 0;cold 5;", 0, 1, 1);
         // A cut behind key 7: 27 and 7 make note 2, 27 alone note 3.
         readyFor("reed 9 7;", 3, 1);
         // Wet until it does not cough: 3 wet by breath 1 are enough for depth 4, 6 wet for depth 5.
@@ -219,6 +253,8 @@ public final class EdgesPlansTest {
         dare("reed 0 0;player 7;question 1 0;question 2 0;question 2 0;", 0, 0);
         dare("reed 0 0;player 7;question 1 0;question 1 0;", 0, 0);
         dare("reed 0 0;player 7;question 1 0;question 2 0;", 1, 1);
+        // Rather to win than nobody: behind question 0 the other one is safe, behind question 1 he is not.
+        dare("reed 1 0;player 7;question 1 0;question 2 0;", 1, 1);
         // Rather nobody than to lose: question 1 first, and then question 0 is safe.
         dare("reed 1 5;player 7;question 1 0;question 2 0;", 2, 1);
         EDGES.of(13, "DARE, or (first) what he asks first (NONE: none). -2: there is none such (of any).");

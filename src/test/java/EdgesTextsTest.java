@@ -139,7 +139,12 @@ public final class EdgesTextsTest {
         EDGES.due("its last line", full.duchy(0, 3), 8);
         EDGES.due("text of 600 bytes, cut", Bench.tell(full, 0, NONE, "\n".repeat(6) + "cold 1;".repeat(84) + "cold 8"), NONE);
         EDGES.due("the end's place", full.fault(1), 600);
-        EDGES.due("text of 600 bytes, the last one strange", Bench.tell(full, 0, NONE, " ".repeat(599) + "?"), NONE);
+        EDGES.due("text of 600 bytes, the last of a word", Bench.tell(full, 0, NONE, " ".repeat(596) + "cold"), NONE);
+        EDGES.due("the end's place", full.fault(1), 600);
+        EDGES.due("text of 600 bytes, the last of a number", Bench.tell(full, 0, NONE, " ".repeat(594) + "cold 1"), NONE);
+        EDGES.due("the end's place", full.fault(1), 600);
+        EDGES.due("text of 600 bytes, the last one a blank", Bench.tell(full, 0, NONE, "cold 1;" + " ".repeat(593)), 1);
+        EDGES.due("text of 600 bytes, the last one strange", Bench.tell(full, 0, 0, " ".repeat(599) + "?"), NONE);
         EDGES.due("its place", full.fault(1), 599);
     }
 
@@ -163,6 +168,20 @@ public final class EdgesTextsTest {
         x.feed(0x363B2020, 0x20202020, 0x20202020, 0x20202020, 0x20202020);
         EDGES.due("text, fed behind 5", x.text(0, 0), 0);
         EDGES.due("cold", x.duchy(0, 3), 6);
+        // A word, a number and a blank are cut: what was behind is no part of them.
+        cut(x, "cold 1;coldest", 11, 11);
+        cut(x, "cold 12;", 6, 6);
+        cut(x, "cold 1;", 6, 6);
+        cut(x, "cold    1;", 6, 6);
+        cut(x, "col", 2, 0);
+    }
+
+    private static void cut(ReedOracles x, String text, int n, int place) {
+        x.end(0);
+        Bench.feed(x, Edges.bytes(text));
+        EDGES.due("end of " + text, x.end(n), n);
+        EDGES.due("text of " + text + ", cut", x.text(0, 0), NONE);
+        EDGES.due("place of " + text + ", cut", x.fault(1), place);
     }
 
     private static void endRefused() {
@@ -608,6 +627,10 @@ public final class EdgesTextsTest {
                 for (int other = 0; other < 8; other++) {
                     EDGES.due("means of " + other, x.duchy(0, 60 + other), other == n ? answer : other % 2);
                 }
+                Bench.tell(x, 0, NONE, "");
+                EDGES.due("at first again in a further one", x.duchy(1, 60 + n), n % 2);
+                Bench.tell(x, 0, 0, "");
+                EDGES.due("at first again in its place", x.duchy(0, 60 + n), n % 2);
             }
         }
     }

@@ -650,11 +650,19 @@ public final class EdgesYearsTest {
             EDGES.due("after nothing, what " + what, bare.after(0, 0, what), NONE);
             EDGES.due("after a lie, what " + what, lie.after(0, 0, what), want[what]);
         }
+        Bench.tell(lie, 1, NONE, "ask 0 0 0;wet 1;");
+        Bench.tell(lie, 0, NONE, "player 7;");
+        int[] second = {NONE, 0, 0, 0};
+        for (int what = 0; what < 4; what++) {
+            EDGES.due("after another year, what " + what, lie.after(0, 1, what), second[what]);
+            EDGES.due("after the first year again, what " + what, lie.after(0, 0, what), want[what]);
+            EDGES.due("after it in another duchy, what " + what, lie.after(1, 0, what), NONE);
+        }
         EDGES.of(33, "-2: there is none such (of either), or for another what.");
         for (int what : Edges.beside(4)) {
             EDGES.due("after(0, 0, " + what + ")", lie.after(0, 0, what), -2);
         }
-        for (int number : Edges.beside(1)) {
+        for (int number : Edges.beside(2)) {
             for (int what = 0; what < 4; what++) {
                 EDGES.due("after(" + number + ", 0, " + what + ")", lie.after(number, 0, what), -2);
                 EDGES.due("after(0, " + number + ", " + what + ")", lie.after(0, number, what), -2);

@@ -12,6 +12,8 @@ public final class ModelTest {
     private Model.Duchy d;
     private List<int[]> year;
     private List<int[]> log;
+    /** The texts of the round before. */
+    private final String[] worn = {"", "", ""};
 
     private ModelTest(long seed) {
         random = new Random(seed);
@@ -40,7 +42,6 @@ public final class ModelTest {
         // An object is good for 512 calls: the others go to new ones.
         renew();
         singles();
-        renew();
         reeds();
         renew();
         players();
@@ -52,13 +53,32 @@ public final class ModelTest {
         }
         renew();
         wholes();
+        worn[0] = write(d);
+        worn[1] = writeYear();
+        worn[2] = writeLog();
     }
 
+    /** The texts come in the place of others that were asked of, so that nothing of these may be left. */
     private void renew() {
         x = new ReedOracles();
-        Bench.tell(x, 0, -1, write(d));
-        Bench.tell(x, 1, -1, writeYear());
-        Bench.tell(x, 2, -1, writeLog());
+        for (int sort = 0; sort < 3; sort++) {
+            Bench.tell(x, sort, -1, worn[sort]);
+        }
+        wear();
+        Bench.tell(x, 0, 0, write(d));
+        Bench.tell(x, 1, 0, writeYear());
+        Bench.tell(x, 2, 0, writeLog());
+    }
+
+    private void wear() {
+        x.after(0, 0, 1);
+        x.fits(0, 0, 4);
+        x.favour(0, 0, 1, -1);
+        x.program(0, 0, 0, -1);
+        x.ready(0, 0, 0, 0, 1, -1);
+        x.choir(0, 0, true);
+        x.chords(0, 0, 0);
+        x.owns(0, 0, false);
     }
 
     private int below(int n) {
@@ -381,6 +401,7 @@ public final class ModelTest {
 
     private void reeds() {
         for (int r = -1; r <= d.reeds.size(); r++) {
+            renew();
             int wets = -1;
             for (int times = 3; d.hasReed(r) && times >= 0; times--) {
                 boolean good = true;
