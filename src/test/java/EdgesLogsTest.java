@@ -73,7 +73,7 @@ public final class EdgesLogsTest {
         EDGES.of(19, "SURE of the WET, of the KEY: it, if it is one in all");
         fits("player 9;question 10 0;", "cough 0 0;cough 0 0;", 1, 0);
         fits("player 8;question 10 0;", "cough 0 0;cough 0 0;", 1, NONE);
-        EDGES.of(19, "1, 2: SURE of the WET, of the KEY (NONE: not one)");
+        EDGES.of(19, "What 0: how many FIT, 1, 2: SURE of the WET, of the KEY (NONE: not one), 3: WHOSE (bits)");
         fits(PLAIN, "", 1, NONE);
         fits(PLAIN, "", 2, NONE);
         fits(PLAIN, "cough 0 0;", 1, NONE);
@@ -142,7 +142,7 @@ public final class EdgesLogsTest {
     }
 
     private static void fitsMissing() {
-        EDGES.of(19, "-2: a PLAYER, a QUESTION that was told of is not there, there is none such (of any), or for another what.");
+        EDGES.of(19, "10 + k: the k-th. -2: a PLAYER, a QUESTION that was told of is not there, there is none such (of any), or for another what.");
         for (int what : new int[] {0, 1, 2, 3, 4, 10}) {
             fits(PLAIN, "heard 1 0 0;", what, -2);
             fits(PLAIN, "cough 3 0;", what, -2);

@@ -164,7 +164,7 @@ public final class EdgesNotesTest {
         told("reed 0 0;question 1 0;", 0, 0, 0, 0);
         told("reed 0 1;".repeat(6) + "player 7;".repeat(4) + "question 1 0;question 15 0;", 0, 24, 0, 0);
         told("reed 0 1;".repeat(6) + "player 7;".repeat(4) + "question 15 0;question 1 0;", 0, 0, 0, 24);
-        EDGES.of(16, "NONE: there is none such (of either), or for another what.");
+        EDGES.of(16, "TOLD of a QUESTION, what 0: NO, 1: YES, 2: WAIT, 3: nothing. NONE: there is none such (of either), or for another what.");
         ReedOracles x = Bench.duchy("reed 0 1;player 7;question 1 0;question 1 0;");
         EDGES.missing("told", NONE, n -> x.told(n[0], n[1], n[2]), 1, 2, 4);
         EDGES.due("no questions", Bench.duchy("reed 0 0;player 1;").told(0, 0, 0), NONE);
@@ -235,7 +235,7 @@ public final class EdgesNotesTest {
         // 6, 3, 3 and 2: 14 less 8; 11 less 8: 3; then it coughs, which is no answer.
         EDGES.due("before it coughs", ripe("reed 2 3;" + DEEP, 1), 1);
         EDGES.due("it coughs before", ripe("reed 1 0;" + DEEP, 1), NONE);
-        EDGES.of(23, "NONE: not by 9, another ANSWER, or there is none such (of any).");
+        EDGES.of(23, "RIPE of an ANSWER, 0 .. 2. NONE: not by 9, another ANSWER, or there is none such (of any).");
         EDGES.due("not by 9", ripe("reed 9 0;" + PLAIN, 2), NONE);
         EDGES.due("it coughs", ripe("reed 0 0;" + DEEP, 0), NONE);
         ReedOracles x = Bench.duchy("reed 0 0;reed 0 0;" + PLAIN);
@@ -423,7 +423,7 @@ public final class EdgesNotesTest {
         tuned("000007", 1, 0);
         tuned("111110", 1, 1);
         tuned("", 0, 0);
-        EDGES.of(31, "NONE: there is none such, or for another what.");
+        EDGES.of(31, "What 0: TWINS, 1: TUNE, how many cuts, 2: the KEY. NONE: there is none such, or for another what.");
         ReedOracles x = Bench.duchy("reed 0 0;" + PLAIN);
         EDGES.missing("twins", NONE, n -> x.twins(n[0], n[1]), 1, 3);
     }
@@ -450,7 +450,7 @@ public final class EdgesNotesTest {
         fairest("reed 0 0;player 1;", 1, 0, 0);
         fairest("", 2, 0, 0);
         fairest("reed 0 1;".repeat(6) + "player 7;".repeat(4) + "question 1 0;".repeat(8), 0, 1, 192);
-        EDGES.of(32, "NONE: another ANSWER, or there is none such.");
+        EDGES.of(32, "FAIREST of an ANSWER, 0 .. 2: the COLD, or (many) of how many. NONE: another ANSWER, or there is none such.");
         ReedOracles x = Bench.duchy("reed 0 0;" + PLAIN);
         EDGES.missing("fairest", NONE, n -> x.fairest(n[0], n[1], false), 1, 3);
         EDGES.missing("how many", NONE, n -> x.fairest(n[0], n[1], true), 1, 3);

@@ -74,7 +74,7 @@ public final class EdgesYearsTest {
     }
 
     private static void plays() {
-        EDGES.of(9, "ask: a REED that is not CRACKED, a PLAYER who has played less than 3 times since the last night");
+        EDGES.of(9, "ask: a REED that is not CRACKED, a PLAYER who has played less than 3 times since the last night: it COUGHS or has its NOTE");
         String duchy = "reed 9 0;reed 9 0;" + ALL_YES + PLAIN;
         String ask = "ask 0 0 0;";
         stop(duchy, ask.repeat(3), 3);
@@ -493,7 +493,7 @@ public final class EdgesYearsTest {
     }
 
     private static void drawsOf32Bits() {
-        EDGES.of(21, "x becomes x * 1103515245 + 12345 (of 32 bits), it is x shifted right by 16 without sign, remainder by n");
+        EDGES.of(21, "DRAWN by a SEED, x; a number below n is drawn: x becomes x * 1103515245 + 12345 (of 32 bits), it is x shifted right by 16 without sign, remainder by n");
         ReedOracles bare = Bench.duchy("");
         int[] seeds = {0, 1, -1, 2, -2, 12345, Integer.MIN_VALUE, Integer.MAX_VALUE, 0x80000001, 0x7FFF0000, 0xFFFF0000};
         for (int seed : seeds) {
